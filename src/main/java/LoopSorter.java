@@ -248,11 +248,11 @@ public final class LoopSorter {
         }
     }
 
-    /** Of the inducts that have not had their turn, the first of those with the least share. */
     private Induct nextInTurn() {
         Induct next = null;
         for (int i = 0; i < INDUCTS; i++) {
             Induct other = inducts[i];
+            // Strictly less, so that of equal shares the least number comes first.
             if (!other.hadTurn && (next == null || other.putOnCount < next.putOnCount)) {
                 next = other;
             }
@@ -351,7 +351,9 @@ public final class LoopSorter {
         void removeFirst() {
             if (waiting > 0) {
                 waiting--;
-                System.arraycopy(row, 1, row, 0, waiting);
+                for (int i = 0; i < waiting; i++) {
+                    row[i] = row[i + 1];
+                }
                 row[waiting] = null;
             }
         }

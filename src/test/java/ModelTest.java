@@ -1,3 +1,5 @@
+import java.util.ArrayList;
+import java.util.List;
 import java.util.Random;
 
 /** Long mixed runs, all promises at once: each answer is compared with that of a plain model. */
@@ -15,6 +17,7 @@ public final class ModelTest {
     /** Few chutes make full ones; which share of calls are inducts differs from run to run. */
     private final int chutes;
     private final int inductsInTen;
+    private final List<int[]> missedOnes = new ArrayList<>();
 
     public static void main(String[] args) {
         for (int seed = 1; seed <= RUNS; seed++) {
@@ -76,7 +79,7 @@ public final class ModelTest {
     }
 
     private void callStep(int i) {
-        int n = random.nextInt(30) == 0 ? -1 : random.nextInt(30) == 0 ? 100 : random.nextInt(1 + random.nextInt(30));
+        int n = random.nextInt(30) == 0 ? -1 : random.nextInt(1 + random.nextInt(40));
         compare(i, "step(" + n + ")", sorter.step(n), model.step(n));
     }
 
@@ -107,16 +110,31 @@ public final class ModelTest {
         return random.nextInt(1 + random.nextInt(100));
     }
 
+    /** Mostly an item that is on the loop: others are only refused. */
+    private int someCarriedItem() {
+        int item = 0;
+        for (int tries = 0; tries < 10 && item == 0; tries++) {
+            item = (int) model.tray(random.nextInt(size));
+        }
+        return item == 0 || random.nextInt(5) == 0 ? someItem() : item;
+    }
+
     private void callMissed(int i) {
-        int item = someItem();
-        compare(i, "missed(" + item + ")", sorter.missed(item), model.missed(item));
+        int item = someCarriedItem();
+        long want = model.missed(item);
+        compare(i, "missed(" + item + ")", sorter.missed(item), want);
+        if (want >= 0) {
+            missedOnes.add(new int[] {item, (int) want});
+        }
     }
 
     private void callFound(int i) {
-        int item = someItem();
+        int item = someCarriedItem();
         int tray = about(size);
-        for (int tries = 0; tries < 4 && tray >= 0 && model.tray(tray) != item; tries++) {
-            tray = about(size);
+        if (!missedOnes.isEmpty() && random.nextInt(4) > 0) {
+            int[] missedOne = missedOnes.get(random.nextInt(missedOnes.size()));
+            item = missedOne[0];
+            tray = random.nextInt(3) > 0 ? missedOne[1] : about(size);
         }
         long got;
         try {

@@ -82,7 +82,6 @@ public final class NewObjectTest {
         chutesStandAt(1, 0, 0, 0, 0, 0, 0, 0, 0, 0, 0, 0, 0, 0, 0, 0, 0);
         chutesStandAt(3, 0, 0, 0, 0, 0, 1, 1, 1, 1, 1, 1, 2, 2, 2, 2, 2);
         chutesStandAt(16, 0, 1, 2, 3, 4, 5, 6, 7, 8, 9, 10, 11, 12, 13, 14, 15);
-        // 17 / 2 is cut before it is added: with 8.5 chute 8 would stand at 9 all the same, chute 7 at 7
         chutesStandAt(17, 0, 1, 2, 3, 4, 5, 6, 7, 9, 10, 11, 12, 13, 14, 15, 16);
         chutesStandAt(200, 6, 18, 31, 43, 56, 68, 81, 93, 106, 118, 131, 143, 156, 168, 181, 193);
     }
