@@ -1,16 +1,16 @@
-/** Promise 1: a new object, its bounds, and where the inducts and chutes stand. */
+/** Promise 1: a new object. */
 public final class NewObjectTest {
     private static final Due due = new Due("NewObjectTest");
 
     public static void main(String[] args) {
         traysAreBroughtWithinBounds();
         roundsAreBroughtWithinBounds();
+        bothAreBroughtWithinBounds();
         nothingHasHappenedYet();
-        inductsStandAtTheirPositions();
-        chutesStandAtTheirPositions();
         due.end();
     }
 
+    /** "so many trays (brought to 1 .. 200)": 0, 1, 2 and 199, 200, 201. */
     private static void traysAreBroughtWithinBounds() {
         int[][] askedAndHad = {
             {Integer.MIN_VALUE, 1}, {-5, 1}, {-1, 1}, {0, 1}, {1, 1}, {2, 2}, {3, 3}, {16, 16},
@@ -22,9 +22,11 @@ public final class NewObjectTest {
                 due.answer(made + "tray(" + k + ")", x.tray(k), 0);
             }
             due.noSuchTray(made + "tray(" + pair[1] + ")", () -> x.tray(pair[1]));
+            due.noSuchTray(made + "tray(-1)", () -> x.tray(-1));
         }
     }
 
+    /** "may pass its chute so often (brought to 1 .. 20)": 0, 1, 2 and 19, 20, 21. */
     private static void roundsAreBroughtWithinBounds() {
         int[][] askedAndHad = {
             {Integer.MIN_VALUE, 1}, {-1, 1}, {0, 1}, {1, 1}, {2, 2}, {19, 19}, {20, 20}, {21, 20},
@@ -41,6 +43,29 @@ public final class NewObjectTest {
         }
     }
 
+    private static void bothAreBroughtWithinBounds() {
+        LoopSorter least = new LoopSorter(0, 0);
+        least.full(0, true);
+        least.induct(0, 1, 0);
+        due.answer("the least loop: step(1)", least.step(1), 0);
+        due.answer("tray(0)", least.tray(0), 1);
+        due.answer("overstayed at once: step(1)", least.step(1), 1);
+        due.noSuchTray("tray(1)", () -> least.tray(1));
+        LoopSorter greatest = new LoopSorter(201, 21);
+        greatest.full(0, true);
+        greatest.induct(0, 1, 0);
+        greatest.step(1);
+        due.answer("the greatest loop: tray(199)", greatest.tray(199), 1);
+        due.noSuchTray("tray(200)", () -> greatest.tray(200));
+        // chute 0 stands at 6, chute 15 at 193
+        for (int i = 0; i < 3; i++) {
+            due.answer("step(1000)", greatest.step(1000), 0);
+        }
+        due.answer("step(992)", greatest.step(992), 0);
+        due.answer("twenty rounds: round(1)", greatest.round(1), 20);
+        due.answer("step(1)", greatest.step(1), 1);
+    }
+
     private static void nothingHasHappenedYet() {
         LoopSorter x = new LoopSorter(20, 3);
         for (int i = 0; i < 4; i++) {
@@ -54,46 +79,5 @@ public final class NewObjectTest {
         due.answer("out(0, 0)", x.out(0, 0), LoopSorter.UNKNOWN);
         due.answer("speed(1)", x.speed(1), 1);
         due.answer("induct(0, 1, 0)", x.induct(0, 1, 0), 1);
-    }
-
-    private static void inductsStandAtTheirPositions() {
-        inductsStandAt(1, 0, 0, 0, 0);
-        inductsStandAt(2, 0, 0, 1, 1);
-        inductsStandAt(3, 0, 0, 1, 2);
-        inductsStandAt(5, 0, 1, 2, 3);
-        inductsStandAt(6, 0, 1, 3, 4);
-        inductsStandAt(7, 0, 1, 3, 5);
-        inductsStandAt(16, 0, 4, 8, 12);
-        inductsStandAt(199, 0, 49, 99, 149);
-        inductsStandAt(200, 0, 50, 100, 150);
-    }
-
-    private static void inductsStandAt(int trays, int... positions) {
-        for (int i = 0; i < positions.length; i++) {
-            LoopSorter x = new LoopSorter(trays, 1);
-            x.induct(i, 1, 0);
-            x.step(1);
-            int tray = (positions[i] + trays - 1) % trays;
-            due.answer("of " + trays + " trays, induct " + i + ": tray(" + tray + ")", x.tray(tray), 1);
-        }
-    }
-
-    private static void chutesStandAtTheirPositions() {
-        chutesStandAt(1, 0, 0, 0, 0, 0, 0, 0, 0, 0, 0, 0, 0, 0, 0, 0, 0);
-        chutesStandAt(3, 0, 0, 0, 0, 0, 1, 1, 1, 1, 1, 1, 2, 2, 2, 2, 2);
-        chutesStandAt(16, 0, 1, 2, 3, 4, 5, 6, 7, 8, 9, 10, 11, 12, 13, 14, 15);
-        chutesStandAt(17, 0, 1, 2, 3, 4, 5, 6, 7, 9, 10, 11, 12, 13, 14, 15, 16);
-        chutesStandAt(200, 6, 18, 31, 43, 56, 68, 81, 93, 106, 118, 131, 143, 156, 168, 181, 193);
-    }
-
-    private static void chutesStandAt(int trays, int... positions) {
-        for (int c = 0; c < positions.length; c++) {
-            LoopSorter x = new LoopSorter(trays, 1);
-            x.induct(0, 1, c);
-            x.step(300);
-            int moves = positions[c] == 0 ? trays : positions[c];
-            due.answer("of " + trays + " trays, chute " + c + ": out(0, 2)", x.out(0, 2), moves);
-            due.answer("of " + trays + " trays, chute " + c + ": out(0, 1)", x.out(0, 1), c);
-        }
     }
 }

@@ -8,11 +8,71 @@ public final class RefusalTest {
     private static final long THREW = Long.MIN_VALUE;
 
     public static void main(String[] args) {
+        inductRefusesInOrder();
+        outRefusesInOrder();
+        foundRefusesInOrder();
         refusedCallsChangeNothing();
         throwingCallsChangeNothing();
-        aFullRowTakesNothing();
-        theFirstRefusalIsAnsweredWhenAllItemsAreUsed();
+        callsThatDidNothingChangeNothing();
         due.end();
+    }
+
+    /** So many items went out (a multiple of 16), and 32 more wait, eight at each induct. */
+    private static LoopSorter fullRows(int gone) {
+        LoopSorter x = new LoopSorter(200, 1);
+        for (int n = 1; n <= gone; n++) {
+            x.induct(n % 4, 1, 15);
+            if (n % 16 == 0) {
+                x.step(500);
+            }
+        }
+        for (int n = 0; n < 32; n++) {
+            due.answer("it waits", x.induct(n % 4, 1, 15), gone + n + 1);
+        }
+        return x;
+    }
+
+    /** "of several the first one here: UNKNOWN .., OUTSIDE .., STATE .., ROOM", and 0 behind all of them. */
+    private static void inductRefusesInOrder() {
+        LoopSorter x = fullRows(368);
+        due.answer("all three: induct(4, 3, 16)", x.induct(4, 3, 16), LoopSorter.UNKNOWN);
+        due.answer("induct(4, 3, 0)", x.induct(4, 3, 0), LoopSorter.UNKNOWN);
+        due.answer("induct(0, 3, 16)", x.induct(0, 3, 16), LoopSorter.UNKNOWN);
+        due.answer("induct(-1, 1, 0)", x.induct(-1, 1, 0), LoopSorter.UNKNOWN);
+        due.answer("induct(0, 1, -1)", x.induct(0, 1, -1), LoopSorter.UNKNOWN);
+        due.answer("induct(0, 3, 0)", x.induct(0, 3, 0), LoopSorter.OUTSIDE);
+        due.answer("induct(3, 0, 15)", x.induct(3, 0, 15), LoopSorter.OUTSIDE);
+        due.answer("induct(0, 1, 0)", x.induct(0, 1, 0), LoopSorter.ROOM);
+        due.answer("induct(3, 2, 15)", x.induct(3, 2, 15), LoopSorter.ROOM);
+        due.answer("the rows are as they were: step(1000)", x.step(1000), 32);
+        due.answer("and empty: step(1000)", x.step(1000), 0);
+        LoopSorter y = fullRows(0);
+        due.answer("8 wait: induct(4, 3, 0)", y.induct(4, 3, 0), LoopSorter.UNKNOWN);
+        due.answer("8 wait: induct(0, 0, 16)", y.induct(0, 0, 16), LoopSorter.UNKNOWN);
+        due.answer("8 wait: induct(0, 1, 16)", y.induct(0, 1, 16), LoopSorter.UNKNOWN);
+        due.answer("8 wait: induct(0, 0, 0)", y.induct(0, 0, 0), LoopSorter.OUTSIDE);
+        due.answer("8 wait: induct(3, 3, 0)", y.induct(3, 3, 0), LoopSorter.OUTSIDE);
+        due.answer("8 wait: induct(3, 1, 0)", y.induct(3, 1, 0), 0);
+        due.answer("the rows are as they were: step(1000)", y.step(1000), 32);
+    }
+
+    private static void outRefusesInOrder() {
+        LoopSorter x = busyLoop();
+        due.answer("out(-1, -1)", x.out(-1, -1), LoopSorter.UNKNOWN);
+        due.answer("out(1, 4)", x.out(1, 4), LoopSorter.UNKNOWN);
+        due.answer("out(0, 4)", x.out(0, 4), LoopSorter.OUTSIDE);
+        due.answer("out(0, -1)", x.out(0, -1), LoopSorter.OUTSIDE);
+        due.answer("out(0, 3)", x.out(0, 3), 0);
+    }
+
+    private static void foundRefusesInOrder() {
+        LoopSorter x = busyLoop();
+        due.answer("no item, no tray: found(13, 32)", x.found(13, 32), LoopSorter.UNKNOWN);
+        due.answer("it waits, no tray: found(12, 32)", x.found(12, 32), LoopSorter.STATE);
+        due.answer("it went out, no tray: found(1, -1)", x.found(1, -1), LoopSorter.STATE);
+        due.answer("not missed, no tray: found(2, 32)", x.found(2, 32), LoopSorter.STATE);
+        due.noSuchTray("missed, no tray: found(3, 32)", () -> x.found(3, 32));
+        due.answer("missed, another tray: found(3, 31)", x.found(3, 31), 0);
     }
 
     /** Item 1 went out, 2 is carried, 3 is carried, long and missed, 4 is overstayed, 5 to 12 wait. */
@@ -88,6 +148,7 @@ public final class RefusalTest {
         }
     }
 
+    /** "A call that is refused .. changes nothing." */
     private static void refusedCallsChangeNothing() {
         long unknown = LoopSorter.UNKNOWN;
         long outside = LoopSorter.OUTSIDE;
@@ -119,6 +180,7 @@ public final class RefusalTest {
         unchanged("round(13)", unknown, x -> x.round(13));
     }
 
+    /** "A call that .. throws, changes nothing." */
     private static void throwingCallsChangeNothing() {
         unchanged("tray(32)", THREW, x -> x.tray(32));
         unchanged("tray(-1)", THREW, x -> x.tray(-1));
@@ -126,25 +188,9 @@ public final class RefusalTest {
         unchanged("found(3, -1)", THREW, x -> x.found(3, -1));
     }
 
-    private static void aFullRowTakesNothing() {
-        unchanged("induct(3, 1, 0)", 0, x -> x.induct(3, 1, 0));
-        unchanged("found on another tray", 0, x -> x.found(3, 14));
-    }
-
-    private static void theFirstRefusalIsAnsweredWhenAllItemsAreUsed() {
-        LoopSorter x = new LoopSorter(200, 1);
-        for (int n = 0; n < 400; n++) {
-            x.induct(n / 8 % 4, 1, 15);
-            if (n % 32 == 31) {
-                x.step(300);
-            }
-        }
-        due.answer("induct(4, 3, 0)", x.induct(4, 3, 0), LoopSorter.UNKNOWN);
-        due.answer("induct(0, 3, 16)", x.induct(0, 3, 16), LoopSorter.UNKNOWN);
-        due.answer("induct(0, 3, 0)", x.induct(0, 3, 0), LoopSorter.OUTSIDE);
-        due.answer("induct(0, 1, 0)", x.induct(0, 1, 0), LoopSorter.ROOM);
-        due.answer("induct(3, 1, 0)", x.induct(3, 1, 0), LoopSorter.ROOM);
-        due.answer("the rows are as they were", x.step(1000), 16);
-        due.answer("and empty", x.step(1000), 0);
+    private static void callsThatDidNothingChangeNothing() {
+        unchanged("8 wait: induct(3, 1, 0)", 0, x -> x.induct(3, 1, 0));
+        unchanged("another tray: found(3, 14)", 0, x -> x.found(3, 14));
+        unchanged("no step: step(0)", 0, x -> x.step(0));
     }
 }

@@ -4,44 +4,76 @@ public final class RoundTest {
 
     public static void main(String[] args) {
         countsTheChutePassed();
+        isNoneWhileItWaits();
         staysAsItWasWhenItWentOut();
         countsOnWhenItHasOverstayed();
-        wrongInputsAreRefused();
+        noSuchItems();
         due.end();
     }
 
+    /** One move before its chute, at it and one behind it, in each round. */
     private static void countsTheChutePassed() {
         LoopSorter x = new LoopSorter(16, 3);
         x.full(7, true);
         x.induct(0, 1, 7);
-        due.answer("it waits: round(1)", x.round(1), 0);
         x.step(7);
         due.answer("not there yet: round(1)", x.round(1), 0);
         x.step(1);
-        due.answer("round(1)", x.round(1), 1);
-        x.step(15);
-        due.answer("round(1)", x.round(1), 1);
+        due.answer("passed: round(1)", x.round(1), 1);
         x.step(1);
-        due.answer("round(1)", x.round(1), 2);
+        due.answer("behind it: round(1)", x.round(1), 1);
+        x.step(14);
+        due.answer("not there yet: round(1)", x.round(1), 1);
+        x.step(1);
+        due.answer("passed: round(1)", x.round(1), 2);
         due.answer("step(15)", x.step(15), 0);
         x.step(1);
-        due.answer("round(1)", x.round(1), 3);
+        due.answer("passed: round(1)", x.round(1), 3);
         due.answer("step(7)", x.step(7), 0);
-        due.answer("step(1)", x.step(1), 1);
+        due.answer("overstayed: step(1)", x.step(1), 1);
     }
 
+    /** "0 while it waits": though its chute is shut and the loop goes round. */
+    private static void isNoneWhileItWaits() {
+        LoopSorter x = new LoopSorter(1, 1);
+        x.full(7, true);
+        x.induct(0, 2, 7);
+        x.induct(0, 1, 7);
+        for (int i = 0; i < 3; i++) {
+            due.answer("round(1)", x.round(1), 0);
+            due.answer("round(2)", x.round(2), 0);
+            x.step(500);
+        }
+        LoopSorter y = new LoopSorter(16, 5);
+        y.full(0, true);
+        y.induct(0, 1, 0);
+        due.answer("it waits: round(1)", y.round(1), 0);
+        y.step(1);
+        due.answer("it is put on: round(1)", y.round(1), 0);
+        y.step(16);
+        due.answer("it has passed: round(1)", y.round(1), 1);
+    }
+
+    /** "as they were when it went out": none, some and as many as there may be. */
     private static void staysAsItWasWhenItWentOut() {
         LoopSorter x = new LoopSorter(16, 2);
         x.full(7, true);
+        x.full(9, true);
         x.induct(0, 1, 7);
         x.induct(0, 1, 8);
+        x.induct(0, 1, 9);
+        x.step(20);
+        due.answer("round(3)", x.round(3), 1);
+        x.full(9, false);
         x.step(200);
-        due.answer("round(1)", x.round(1), 2);
-        due.answer("round(2)", x.round(2), 0);
-        x.full(7, false);
-        x.full(15, false);
-        x.step(200);
-        due.answer("round(1)", x.round(1), 2);
+        for (int i = 0; i < 3; i++) {
+            due.answer("overstayed: round(1)", x.round(1), 2);
+            due.answer("at once: round(2)", x.round(2), 0);
+            due.answer("in the second round: round(3)", x.round(3), 1);
+            x.full(7, i == 0);
+            x.full(15, false);
+            x.step(200);
+        }
     }
 
     private static void countsOnWhenItHasOverstayed() {
@@ -61,13 +93,18 @@ public final class RoundTest {
         due.answer("out(0, 3)", x.out(0, 3), 2);
     }
 
-    private static void wrongInputsAreRefused() {
+    /** UNKNOWN: 0, 1 and the last item, the number behind it. */
+    private static void noSuchItems() {
         LoopSorter x = new LoopSorter(16, 2);
         due.answer("round(1) when there is none", x.round(1), LoopSorter.UNKNOWN);
-        x.induct(0, 1, 7);
-        int[] noItems = {Integer.MIN_VALUE, -1, 0, 2, 400, 401, Integer.MAX_VALUE};
-        for (int item : noItems) {
-            due.answer("round(" + item + ")", x.round(item), LoopSorter.UNKNOWN);
+        for (int count = 1; count <= 8; count++) {
+            x.induct(0, 1, 7);
+            int[] noItems = {Integer.MIN_VALUE, -2, -1, 0, count + 1, count + 2, 400, 401, Integer.MAX_VALUE};
+            for (int item : noItems) {
+                due.answer("of " + count + ": round(" + item + ")", x.round(item), LoopSorter.UNKNOWN);
+            }
+            due.answer("of " + count + ": round(1)", x.round(1), 0);
+            due.answer("of " + count + ": round(" + count + ")", x.round(count), 0);
         }
     }
 }
