@@ -16,13 +16,19 @@ final class Due {
         }
     }
 
-    /** The class must be the very one: the document names it, and no other may reach the caller. */
+    /**
+     * The class must be the very one: the document names it, and no other may reach the caller. The
+     * machine's own message tells that an index was used before it was looked at.
+     */
     void noSuchTray(String call, Runnable caller) {
         String got = "nothing";
         try {
             caller.run();
         } catch (RuntimeException e) {
             got = e.getClass().getName();
+            if (e.getMessage() != null && e.getMessage().startsWith("Index ")) {
+                got = got + " of the machine's own";
+            }
         }
         seen++;
         if (!got.equals("java.lang.ArrayIndexOutOfBoundsException")) {
