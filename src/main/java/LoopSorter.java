@@ -77,10 +77,10 @@ public final class LoopSorter {
     }
 
     public int out(int i, int what) {
-        if (i < 0 || i >= goneCount) {
+        Item item = itemGoneAs(i);
+        if (item == null) {
             return UNKNOWN;
         }
-        Item item = gone[i];
         switch (what) {
             case 0:
                 return item.number;
@@ -99,7 +99,7 @@ public final class LoopSorter {
         if (!isTray(k)) {
             throw new ArrayIndexOutOfBoundsException("no such tray");
         }
-        Item item = carriedBy[k];
+        Item item = itemOn(k);
         return item == null ? 0 : item.number;
     }
 
@@ -188,6 +188,16 @@ public final class LoopSorter {
         return number < 1 || number > itemCount ? null : items[number - 1];
     }
 
+    /** The i-th item that went out, or null when there is none. */
+    private Item itemGoneAs(int i) {
+        return i < 0 || i >= goneCount ? null : gone[i];
+    }
+
+    /** The item on this tray, or null when there is none. */
+    private Item itemOn(int tray) {
+        return isTray(tray) ? carriedBy[tray] : null;
+    }
+
     private void runOneStep() {
         for (int i = 0; i < movesPerStep; i++) {
             shift = shift + 1 < trayCount ? shift + 1 : 0;
@@ -203,7 +213,7 @@ public final class LoopSorter {
     private void passChutes() {
         for (int c = 0; c < CHUTES; c++) {
             int tray = trayAt(chutes[c].position);
-            Item item = carriedBy[tray];
+            Item item = itemOn(tray);
             if (item != null && item.ownTray == tray && item.place == Place.CARRIED) {
                 passChute(item, c);
             }
@@ -231,8 +241,10 @@ public final class LoopSorter {
         item.place = Place.OUT;
         item.outChute = chute;
         item.outTime = time;
-        gone[goneCount] = item;
-        goneCount++;
+        if (goneCount < MOST_ITEMS) {
+            gone[goneCount] = item;
+            goneCount++;
+        }
     }
 
     private void takeTurns() {
@@ -275,17 +287,23 @@ public final class LoopSorter {
     }
 
     private boolean isFreeFor(Item item, int tray) {
-        if (carriedBy[tray] != null) {
+        if (itemOn(tray) != null) {
             return false;
         }
         // On a loop of one tray the tray behind is the tray itself, and free, but it is no second one.
-        return item.length < LONG_LENGTH || (trayCount > 1 && carriedBy[trayBehind(tray)] == null);
+        return item.length < LONG_LENGTH || (trayCount > 1 && itemOn(trayBehind(tray)) == null);
     }
 
     private void setTraysOf(Item item, Item carried) {
-        carriedBy[item.ownTray] = carried;
+        setTray(item.ownTray, carried);
         if (item.length == LONG_LENGTH) {
-            carriedBy[trayBehind(item.ownTray)] = carried;
+            setTray(trayBehind(item.ownTray), carried);
+        }
+    }
+
+    private void setTray(int tray, Item carried) {
+        if (tray >= 0 && tray < trayCount) {
+            carriedBy[tray] = carried;
         }
     }
 

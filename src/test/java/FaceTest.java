@@ -13,6 +13,10 @@ public final class FaceTest {
         constantsHaveTheirValues();
         theClassIsPublicAndFinal();
         visibleMembersAreThoseOfTheDocument();
+        classesInsideAreNotPartOfIt();
+        noPrivateMethodBearsAPublicName();
+        staticFieldsAreFinal();
+        theConstructorThrowsNothing();
         due.end();
     }
 
@@ -73,5 +77,45 @@ public final class FaceTest {
             }
         }
         return seen;
+    }
+
+    /** LANGUAGE.md, rule 1: "the classes inside it, which are private or package-visible and static". */
+    private static void classesInsideAreNotPartOfIt() {
+        for (Class<?> inside : LoopSorter.class.getDeclaredClasses()) {
+            int modifiers = inside.getModifiers();
+            boolean isSeen = Modifier.isPublic(modifiers) || Modifier.isProtected(modifiers);
+            due.answer("seen from outside: " + inside.getName(), isSeen ? 1 : 0, 0);
+            due.answer("static: " + inside.getName(), Modifier.isStatic(modifiers) ? 1 : 0, 1);
+        }
+        due.answer("interfaces", LoopSorter.class.getInterfaces().length, 0);
+        due.answer("extends Object", LoopSorter.class.getSuperclass() == Object.class ? 1 : 0, 1);
+    }
+
+    /** LANGUAGE.md, rule 1: "No private method bears the name of a public one." */
+    private static void noPrivateMethodBearsAPublicName() {
+        for (Method method : LoopSorter.class.getDeclaredMethods()) {
+            int sameName = 0;
+            for (Method other : LoopSorter.class.getDeclaredMethods()) {
+                if (Modifier.isPublic(other.getModifiers()) && other.getName().equals(method.getName())) {
+                    sameName++;
+                }
+            }
+            due.answer(method.toString(), sameName, Modifier.isPublic(method.getModifiers()) ? 1 : 0);
+        }
+    }
+
+    /** LANGUAGE.md, rule 5: objects share nothing that changes. */
+    private static void staticFieldsAreFinal() {
+        for (Field field : LoopSorter.class.getDeclaredFields()) {
+            if (Modifier.isStatic(field.getModifiers())) {
+                due.answer("final: " + field, Modifier.isFinal(field.getModifiers()) ? 1 : 0, 1);
+            }
+        }
+    }
+
+    private static void theConstructorThrowsNothing() {
+        for (Constructor<?> constructor : LoopSorter.class.getConstructors()) {
+            due.answer("declared throws", constructor.getExceptionTypes().length, 0);
+        }
     }
 }

@@ -7,6 +7,7 @@ public final class NewObjectTest {
         roundsAreBroughtWithinBounds();
         bothAreBroughtWithinBounds();
         nothingHasHappenedYet();
+        objectsShareNothing();
         due.end();
     }
 
@@ -79,5 +80,23 @@ public final class NewObjectTest {
         due.answer("out(0, 0)", x.out(0, 0), LoopSorter.UNKNOWN);
         due.answer("speed(1)", x.speed(1), 1);
         due.answer("induct(0, 1, 0)", x.induct(0, 1, 0), 1);
+    }
+
+    private static void objectsShareNothing() {
+        LoopSorter busy = new LoopSorter(16, 1);
+        LoopSorter other = new LoopSorter(17, 2);
+        busy.induct(0, 1, 3);
+        busy.full(4, true);
+        busy.speed(5);
+        busy.step(7);
+        due.answer("induct(0, 1, 4)", other.induct(0, 1, 4), 1);
+        due.answer("speed(1)", other.speed(1), 1);
+        due.answer("share(0)", other.share(0), 0);
+        due.answer("step(1)", other.step(1), 0);
+        due.answer("tray(16)", other.tray(16), 1);
+        due.answer("out(0, 0)", other.out(0, 0), LoopSorter.UNKNOWN);
+        due.answer("chute 4 stands at 4, and is open: step(4)", other.step(4), 1);
+        due.answer("out(0, 2)", other.out(0, 2), 4);
+        due.answer("the busy one: out(0, 2)", busy.out(0, 2), 1);
     }
 }

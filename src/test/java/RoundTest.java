@@ -76,21 +76,29 @@ public final class RoundTest {
         }
     }
 
+    /** Terms: "its ROUNDS are one more": no sentence names a last count of them. */
     private static void countsOnWhenItHasOverstayed() {
-        LoopSorter x = new LoopSorter(16, 1);
-        x.full(7, true);
-        x.induct(0, 1, 7);
-        x.step(8);
-        due.answer("round(1)", x.round(1), 1);
-        // missed at the overflow, it comes past its own chute once more
-        x.missed(1);
-        x.step(10);
-        x.found(1, 15);
-        due.answer("step(6)", x.step(6), 0);
-        due.answer("round(1)", x.round(1), 2);
-        due.answer("step(8)", x.step(8), 1);
-        due.answer("out(0, 1)", x.out(0, 1), 15);
-        due.answer("out(0, 3)", x.out(0, 3), 2);
+        int[] allowed = {1, 2, 19, 20};
+        for (int rounds : allowed) {
+            LoopSorter x = new LoopSorter(16, rounds);
+            String made = rounds + " rounds: ";
+            x.full(7, true);
+            x.induct(0, 1, 7);
+            x.step(8);
+            for (int passed = 1; passed <= rounds + 10; passed++) {
+                due.answer(made + "round(1)", x.round(1), passed);
+                // missed at the overflow, it comes past its own chute once more
+                x.missed(1);
+                x.step(10);
+                x.found(1, 15);
+                due.answer(made + "step(6)", x.step(6), 0);
+            }
+            due.answer(made + "step(7)", x.step(7), 0);
+            due.answer(made + "at the overflow: step(1)", x.step(1), 1);
+            due.answer(made + "out(0, 1)", x.out(0, 1), 15);
+            due.answer(made + "out(0, 3)", x.out(0, 3), rounds + 11);
+            due.answer(made + "round(1)", x.round(1), rounds + 11);
+        }
     }
 
     /** UNKNOWN: 0, 1 and the last item, the number behind it. */
